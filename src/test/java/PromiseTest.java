@@ -188,7 +188,10 @@ public final class PromiseTest {
         call("addWalker", 3, 0);
         call("addWalker", 2, 0);
         due(2, "shiftRow", 3, 1);
+        due(2, "shiftRow", 3, -1);
         due(1, "shiftRow", 2, -1);
+        due(1, "shiftRow", 2, 1);
+        due(0, "shiftRow", 1, -1);
         due(0, "shiftRow", 0, -1);
         call("pin", 3, 4);
         due(STATE, "shiftRow", 3, 1);
@@ -246,7 +249,7 @@ public final class PromiseTest {
         due(false, "hasLock", 2, 4);
         due(2, "keysAt", 2, 0);
         due(0, "keysOf", 0);
-        begin2(7);
+        goOn(7);
         due(1, "shiftColumn", 0, -3);
         due(4, "walkerRow", 0);
         due(0, "walkerColumn", 0);
@@ -415,6 +418,14 @@ public final class PromiseTest {
         due(STATE, "walk", 1, 0, 4);
         due(2, "walk", 1, 0, 2);
         due(8L, "walkedTotal");
+        call("placeKey", 'c', 0, 1);
+        call("placeKey", 'd', 4, 4);
+        due(1, "walk", 1, 0, 1);
+        call("addLock", 0, 0, 'c');
+        call("addLock", 0, 2, 'd');
+        due(STATE, "walk", 0, 0, 0);
+        due(1, "walk", 1, 0, 0);
+        due(STATE, "walk", 1, 0, 2);
     }
 
     private static void tileQueries() {
@@ -446,6 +457,18 @@ public final class PromiseTest {
         for (int bad : BAD_LINES) {
             due(INDEX, "canShiftColumn", bad);
         }
+        // A pin at the end of a line does not hold the next one.
+        x = new BrambleShift();
+        call("pin", 3, 0);
+        call("pin", 0, 3);
+        goOn(15);
+        due(true, "canShiftRow", 2);
+        due(false, "canShiftRow", 3);
+        due(true, "canShiftRow", 4);
+        goOn(16);
+        due(true, "canShiftColumn", 2);
+        due(false, "canShiftColumn", 3);
+        due(true, "canShiftColumn", 4);
         begin(17);
         dueBadCells("hasLock");
         call("addLock", 2, 4, 'f');
@@ -533,6 +556,23 @@ public final class PromiseTest {
             due(25, method);
             call("setTile", 3, 4, 8);
             due(24, method);
+            // From 00 to 01 through row 1, and from 04 to 02 through row 2: all directions.
+            call("setTile", 0, 0, 4);
+            call("setTile", 1, 0, 3);
+            call("setTile", 1, 1, 9);
+            call("setTile", 0, 1, 4);
+            due(21, method);
+            call("setTile", 0, 4, 4);
+            call("setTile", 1, 4, 5);
+            call("setTile", 2, 4, 9);
+            call("setTile", 2, 3, 10);
+            call("setTile", 2, 2, 3);
+            call("setTile", 1, 2, 5);
+            call("setTile", 0, 2, 4);
+            due(15, method);
+            call("setTile", 1, 1, 11);
+            call("setTile", 1, 2, 13);
+            due(14, method);
         }
     }
 
@@ -562,11 +602,11 @@ public final class PromiseTest {
             call("addWalker", count, 4 - count);
         }
         due(3, "walkerCount");
-        begin2(27);
+        goOn(27);
         for (int walker = 0; walker < 3; walker++) {
             due(walker, "walkerRow", walker);
         }
-        begin2(28);
+        goOn(28);
         for (int walker = 0; walker < 3; walker++) {
             due(4 - walker, "walkerColumn", walker);
         }
@@ -684,18 +724,18 @@ public final class PromiseTest {
         begin(33);
         call("addWalker", 2, 2);
         due(25, "reachableCells", 0);
-        begin2(39);
+        goOn(39);
         due(1.0f, "reachableShare", 0);
         call("addLock", 0, 1, 'a');
         call("addLock", 1, 0, 'a');
         due(22.0f / 25.0f, "reachableShare", 0);
-        begin2(33);
+        goOn(33);
         due(22, "reachableCells", 0);
         call("setTile", 2, 2, 0);
         due(1, "reachableCells", 0);
         call("addLock", 2, 2, 'a');
         due(1, "reachableCells", 0);
-        begin2(39);
+        goOn(39);
         due(1.0f / 25.0f, "reachableShare", 0);
     }
 
@@ -828,6 +868,7 @@ public final class PromiseTest {
         due(true, "isConsistent");
         call("addWalker", 0, 0);
         call("addWalker", 2, 2);
+        call("addWalker", 4, 4);
         windThroughAllRows();
         call("addLock", 1, 3, 'a');
         call("placeKey", 'a', 3, 3);
@@ -883,6 +924,8 @@ public final class PromiseTest {
         due(6, "run");
         due(4, "openings", 0, 4);
         due(15, "openings", 1, 0);
+        dueRun(7, "pin 00;pin 01;pin 02;tile 20 0;tile 21 1;tile 22 2;tile 23 5");
+        due(5, "openings", 2, 3);
         // A command that fails undoes those before it, walks and keys included.
         x = new BrambleShift();
         call("addWalker", 0, 0);
@@ -906,6 +949,10 @@ public final class PromiseTest {
         due(7, "openings", 2, 3);
         dueRun(1, "tile 23 12");
         due(12, "openings", 2, 3);
+        // What stood in the buffer before is not read again.
+        dueRun(1, "tile 23 1");
+        due(1, "openings", 2, 3);
+        dueRun(1, "tile 23 12");
         dueRun(1, "turn 23 1");
         due(9, "openings", 2, 3);
         dueRun(1, "pin 23");
@@ -1136,7 +1183,6 @@ public final class PromiseTest {
         call("addLock", 3, 3, 'b');
         call("addWalker", 1, 1);
         call("pin", 4, 4);
-        String state = picture();
         Object[][] changes = {
             {"setTile", 0, 0, 3}, {"turnTile", 0, 1, 1}, {"pin", 0, 0}, {"unpin", 4, 4},
             {"shiftRow", 0, 2}, {"shiftColumn", 2, -1}, {"placeKey", 'c', 0, 0}, {"addLock", 0, 0, 'e'},
@@ -1144,6 +1190,8 @@ public final class PromiseTest {
         };
         for (Object[] change : changes) {
             String name = (String) change[0];
+            call("turnTile", 0, 1, 1);
+            String state = picture();
             Object answer = call(name, Arrays.copyOfRange(change, 1, change.length));
             check(!answer.toString().startsWith("throws"), name + " must succeed, but " + answer);
             check(!picture().equals(state), name + " must change something");
@@ -1167,7 +1215,7 @@ public final class PromiseTest {
         due(2, "undo");
         call("undo");
         call("undo");
-        begin2(49);
+        goOn(49);
         due("nothing", "restore");
         check(picture().equals(state), "restore must bring the saved state");
         due(STATE, "undo");
@@ -1180,7 +1228,7 @@ public final class PromiseTest {
         call("pin", 3, 3);
         due(0, "undo");
         check(picture().equals(state), "undo after restore");
-        begin2(48);
+        goOn(48);
         call("pin", 2, 2);
         call("save");
         call("unpin", 2, 2);
@@ -1278,7 +1326,7 @@ public final class PromiseTest {
     }
 
     /** Goes on with the same object for another promise. */
-    private static void begin2(int number) {
+    private static void goOn(int number) {
         promise = number;
     }
 
