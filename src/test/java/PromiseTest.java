@@ -19,6 +19,10 @@ public final class PromiseTest {
     private static int wrong = 0;
     private static int promise = 0;
     private static BrambleShift x = null;
+    // Nothing is promised after the 512th call of an object, so no test may ask for it.
+    private static final int PROMISED_CALLS = 512;
+    private static BrambleShift counted = null;
+    private static int calls = 0;
 
     private PromiseTest() {
     }
@@ -497,9 +501,10 @@ public final class PromiseTest {
             int row = 2 + ways[direction][0];
             int column = 2 + ways[direction][1];
             for (int here = 0; here < 16; here++) {
+                x = new BrambleShift();
                 for (int there = 0; there < 16; there++) {
-                    x.setTile(2, 2, here);
-                    x.setTile(row, column, there);
+                    call("setTile", 2, 2, here);
+                    call("setTile", row, column, there);
                     boolean want = (here >> direction) % 2 == 1
                             && (there >> ((direction + 2) % 4)) % 2 == 1;
                     due(want, "isConnected", 2, 2, direction);
@@ -529,13 +534,13 @@ public final class PromiseTest {
             begin(number);
             for (int row = 0; row < 5; row++) {
                 for (int column = 0; column < 5; column++) {
-                    x.addLock(row, column, 'a');
+                    call("addLock", row, column, 'a');
                 }
             }
             due(1, method);
             for (int row = 0; row < 5; row++) {
                 for (int column = 0; column < 5; column++) {
-                    x.setTile(row, column, 10);
+                    call("setTile", row, column, 10);
                 }
             }
             due(5, method);
@@ -548,7 +553,7 @@ public final class PromiseTest {
             due(3, method);
             for (int row = 0; row < 5; row++) {
                 for (int column = 0; column < 5; column++) {
-                    x.setTile(row, column, 0);
+                    call("setTile", row, column, 0);
                 }
             }
             due(25, method);
@@ -981,13 +986,17 @@ public final class PromiseTest {
             "column 0+9", "column 0-0", "key f 00", "key a 50", "lock 05 a", "open 00", "enter 05",
             "walk 2 00", "walk 1 50", "walk 1 04"};
         for (String failingText : failing) {
+            begin(42);
+            call("placeKey", 'f', 1, 0);
+            call("addWalker", 4, 4);
+            call("addWalker", 0, 4);
             dueRun(UNSUPPORTED, failingText);
             due(0, "failedCommand");
             dueRun(UNSUPPORTED, "pin 22;" + failingText);
             due(1, "failedCommand");
             due(false, "isPinned", 2, 2);
+            due(ELEMENT, "errorPosition");
         }
-        due(ELEMENT, "errorPosition");
     }
 
     private static void errorPosition() {
@@ -999,11 +1008,13 @@ public final class PromiseTest {
             for (String command : commands) {
                 // Every proper prefix ends with an error at its end, every strange character at its place.
                 for (int end = 0; end < command.length(); end++) {
+                    x = new BrambleShift();
                     dueError(before.length() + end, before + command.substring(0, end));
                     dueError(before.length() + end, before + command.substring(0, end) + "!");
                     dueError(before.length() + end,
                             before + command.substring(0, end) + "!" + command.substring(end + 1));
                 }
+                x = new BrambleShift();
                 int length = before.length() + command.length();
                 dueError(length, before + command + " ");
                 dueError(length + 1, before + command + ";");
@@ -1011,6 +1022,7 @@ public final class PromiseTest {
                 dueError(length + 1, before + command + "; ");
             }
         }
+        x = new BrambleShift();
         dueError(9, "tile 00 1x");
         dueError(10, "tile 00 155");
         dueError(8, "tile 00  1");
@@ -1035,7 +1047,7 @@ public final class PromiseTest {
         dueError(4, "pin " + (char) 0x0661 + "0");
         dueError(4, "row " + (char) 0xFF10);
         // A syntax error is found before any command is carried out.
-        dueError(8, "unpin 00" + "x");
+        dueError(8, "unpin 00x");
         due(ELEMENT, "failedCommand");
         // The position stays stored whatever runs later.
         dueRun(1, "pin 00");
@@ -1177,21 +1189,21 @@ public final class PromiseTest {
     }
 
     private static void undoEachChange() {
-        begin(47);
-        call("setTile", 0, 1, 6);
-        call("placeKey", 'a', 2, 2);
-        call("addLock", 3, 3, 'b');
-        call("addWalker", 1, 1);
-        call("pin", 4, 4);
         Object[][] changes = {
             {"setTile", 0, 0, 3}, {"turnTile", 0, 1, 1}, {"pin", 0, 0}, {"unpin", 4, 4},
             {"shiftRow", 0, 2}, {"shiftColumn", 2, -1}, {"placeKey", 'c', 0, 0}, {"addLock", 0, 0, 'e'},
             {"removeLock", 3, 3}, {"addWalker", 2, 2}, {"walk", 0, 2, 2},
         };
         for (Object[] change : changes) {
-            String name = (String) change[0];
+            begin(47);
+            call("setTile", 0, 1, 6);
+            call("placeKey", 'a', 2, 2);
+            call("addLock", 3, 3, 'b');
+            call("addWalker", 1, 1);
+            call("pin", 4, 4);
             call("turnTile", 0, 1, 1);
             String state = picture();
+            String name = (String) change[0];
             Object answer = call(name, Arrays.copyOfRange(change, 1, change.length));
             check(!answer.toString().startsWith("throws"), name + " must succeed, but " + answer);
             check(!picture().equals(state), name + " must change something");
@@ -1305,19 +1317,20 @@ public final class PromiseTest {
     private static String picture() {
         StringBuilder picture = new StringBuilder();
         for (int row = 0; row < 5; row++) {
-            int length = x.writeRow(row);
+            int length = (Integer) call("writeRow", row);
             for (int index = 0; index < length; index++) {
-                picture.append(x.outputAt(index));
+                picture.append(call("outputAt", index));
             }
             picture.append('\n');
         }
-        for (int walker = 0; walker < x.walkerCount(); walker++) {
-            picture.append(x.walkerRow(walker)).append(x.walkerColumn(walker)).append(' ');
+        int walkers = (Integer) call("walkerCount");
+        for (int walker = 0; walker < walkers; walker++) {
+            picture.append(call("walkerRow", walker)).append(call("walkerColumn", walker)).append(' ');
         }
         for (char key = 'a'; key <= 'f'; key++) {
             picture.append(key).append(call("carrierOf", key)).append(call("keyRow", key)).append(' ');
         }
-        return picture.append(x.shiftCount()).append(' ').append(x.walkedTotal()).append('\n').toString();
+        return picture.append(call("shiftCount")).append(' ').append(call("walkedTotal")).append('\n').toString();
     }
 
     private static void begin(int number) {
@@ -1332,7 +1345,7 @@ public final class PromiseTest {
 
     private static void text(String text) {
         for (int index = 0; index < text.length(); index++) {
-            x.append(text.charAt(index));
+            call("append", text.charAt(index));
         }
     }
 
@@ -1383,7 +1396,16 @@ public final class PromiseTest {
         }
     }
 
+    private static void count() {
+        calls = x == counted ? calls + 1 : 1;
+        counted = x;
+        if (calls > PROMISED_CALLS) {
+            throw new AssertionError("promise " + promise + ": a call after the 512th");
+        }
+    }
+
     private static Object call(String name, Object... arguments) {
+        count();
         for (Method method : BrambleShift.class.getMethods()) {
             if (method.getName().equals(name)) {
                 try {
