@@ -855,6 +855,32 @@ public final class PathBoundaryTest {
         b.due(true, "isConsistent");
     }
 
+    @Sentence(promise = 40, says = INVARIANTS)
+    static void theInvariantsHoldForWalkersInGroupsOfAllSizes(Bench b) {
+        // Row 0 and column 4 below it are ways of their own, and the rest is open.
+        for (int column = 0; column < Bench.SIDE; column++) {
+            b.does("setTile", 0, column, 10);
+        }
+        for (int row = 1; row < Bench.SIDE; row++) {
+            b.does("setTile", row, 4, 5);
+        }
+        int[][] cells = {{2, 1}, {0, 2}, {3, 4}};
+        for (int first = 0; first < 3; first++) {
+            for (int walker = 0; walker < 3; walker++) {
+                int[] cell = cells[(first + walker) % 3];
+                b.does("addWalker", cell[0], cell[1]);
+                b.due(true, "isConsistent");
+            }
+            b.does("undo");
+            b.does("undo");
+            b.does("undo");
+        }
+        b.does("addWalker", 2, 1);
+        b.does("addWalker", 4, 4);
+        b.does("addLock", 3, 4, 'a');
+        b.due(true, "isConsistent");
+    }
+
     @Sentence(promise = 40, says = "Returns true if all invariants hold.")
     static void theInvariantsHoldAfterEachKindOfCall(Bench b) {
         b.does("save");

@@ -395,6 +395,11 @@ public final class QueryBoundaryTest {
     }
 
     @Sentence(promise = 21, says = GROUPS)
+    static void regionCountFollowsWaysInAllDirections(Bench b) {
+        followsWaysInAllDirections(b, BY_SEARCH);
+    }
+
+    @Sentence(promise = 21, says = GROUPS)
     static void regionCountDoesNotMindLocks(Bench b) {
         doesNotMindLocks(b, BY_SEARCH);
     }
@@ -421,6 +426,11 @@ public final class QueryBoundaryTest {
     }
 
     @Sentence(promise = 22, says = GROUPS)
+    static void regionCountByMergingFollowsWaysInAllDirections(Bench b) {
+        followsWaysInAllDirections(b, BY_MERGING);
+    }
+
+    @Sentence(promise = 22, says = GROUPS)
     static void regionCountByMergingDoesNotMindLocks(Bench b) {
         doesNotMindLocks(b, BY_MERGING);
     }
@@ -444,6 +454,32 @@ public final class QueryBoundaryTest {
         b.due(5, method);
         b.does("setTile", 4, 4, 9);
         b.due(4, method);
+    }
+
+    private static void followsWaysInAllDirections(Bench b, String method) {
+        b.everyTile(0);
+        // From 00 to the south, to the east and to the north again, which 01 needs.
+        b.does("setTile", 0, 0, 4);
+        b.does("setTile", 1, 0, 3);
+        b.does("setTile", 1, 1, 9);
+        b.does("setTile", 0, 1, 4);
+        b.due(22, method);
+        // From 04 to the south and to the west.
+        b.does("setTile", 0, 4, 4);
+        b.does("setTile", 1, 4, 9);
+        b.does("setTile", 1, 3, 2);
+        b.due(20, method);
+        // The two ways meet in row 2, coming from both sides.
+        b.does("setTile", 1, 1, 13);
+        b.does("setTile", 1, 3, 6);
+        b.does("setTile", 2, 1, 3);
+        b.does("setTile", 2, 2, 10);
+        b.does("setTile", 2, 3, 9);
+        b.due(16, method);
+        // A ring is one group, and what it surrounds is another.
+        b.everyTile(15);
+        b.does("setTile", 2, 2, 0);
+        b.due(2, method);
     }
 
     private static void doesNotMindLocks(Bench b, String method) {
